@@ -188,6 +188,10 @@ public final class PromisesTest {
         sound("\n a\nout\n1 \n");
         sound("abcdefgh out 999999999");
         sound("aout out 1");
+        sound("zz out 1");
+        sound("a out  1" + "+1".repeat(96));
+        faulty("a out  1" + "+1".repeat(95) + "+ ", 200, 2);
+        faulty("a out  1" + "+1".repeat(95) + "+!", 199, 1);
         sound("kk out k");
         sound("a if 1=1out 1");
         sound("a out12");
@@ -294,6 +298,7 @@ public final class PromisesTest {
         tell(x, "h i", 10, -12);
         Due.is("fault() of a name at a wrong place", x.fault(), 2);
         tell(x, "h out 1", 10, 9);
+        tell(x, "a out 1", 10, 10);
         Due.is("count(2)", x.count(2), 8);
         RuleBroadcast y = new RuleBroadcast();
         tell(y, "a out", 0, -15);
@@ -331,6 +336,15 @@ public final class PromisesTest {
         faulty("a out ((((((((((((]", 18, 2);
         faulty("a if k=k or not " + "[".repeat(12), 27, 3);
         faulty("a by " + "-".repeat(11) + "((k", 17, 3);
+        sound("a if " + "[k=1]and".repeat(13) + " k=1 out 1");
+        sound("a if " + "not k=1 or ".repeat(13) + " k=1 out 1");
+        sound("a out " + "pick(1:1)+".repeat(13) + "1");
+        sound("a out " + "(1)+".repeat(13) + "1");
+        sound("a out " + "-1+".repeat(13) + "1");
+        RuleBroadcast x = new RuleBroadcast();
+        tell(x, "a out " + "(".repeat(13), 0, -28);
+        tell(x, "a out " + "(".repeat(13), 0, -28);
+        tell(x, "a out " + "(".repeat(12) + "k" + ")".repeat(12), 0, 1);
     }
 
     private static void values() {
@@ -886,6 +900,7 @@ public final class PromisesTest {
         RuleBroadcast x = with("a out 1/v", "b out 1");
         x.tasks(3);
         Due.is("off() of what is not applied", x.off(0, 0), BAD);
+        Due.is("off(0, 8)", x.off(0, 8), BAD);
         x.apply(0, 60);
         x.apply(1, 60);
         Due.is("off(0, 0)", x.off(0, 0), 0);
@@ -1029,6 +1044,10 @@ public final class PromisesTest {
         Due.is("when(1)", empty.when(1), 0);
         Due.is("change(1, 2)", empty.change(1, 2), 0);
         Due.is("a time below 0", empty.rule(-1), BAD);
+        RuleBroadcast one = with("a out 1");
+        one.mark();
+        Due.is("restore(0)", one.restore(0), 2);
+        Due.is("when(2), of the one before", one.when(2), 10);
         RuleBroadcast x = with("a out 1/v", "b out 1");
         x.alike(true);
         x.apply(0, 60);
@@ -1053,7 +1072,22 @@ public final class PromisesTest {
         Due.is("off(0, 0)", x.off(0, 0), 0);
         Due.is("row() as before", x.row(0, 0, 0, 1), 2);
         restoreOfTasks();
+        restoreOfTaskZero();
         restoreAndFull();
+    }
+
+    private static void restoreOfTaskZero() {
+        RuleBroadcast x = with("a out 1/v", "b out 1");
+        x.tasks(2);
+        x.asOf(true);
+        x.row(1, 0, 10, 0);
+        x.apply(0, 60);
+        x.row(0, 0, 10, 0);
+        x.mark();
+        x.tasks(1);
+        Due.is("restore(0)", x.restore(0), 3);
+        Due.is("off(0, 0) stays, it was so then", x.off(0, 0), 1);
+        Due.is("count(3), none waits at a task that is not there", x.count(3), 0);
     }
 
     private static void restoreOfTasks() {
