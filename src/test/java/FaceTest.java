@@ -84,6 +84,10 @@ public final class FaceTest {
                     && !Modifier.isPublic(c.getModifiers()));
             Due.isTrue(c + " has some twenty fields at most", Arrays.stream(c.getDeclaredFields())
                     .filter(f -> !Modifier.isStatic(f.getModifiers())).count() <= 20);
+            for (Method m : c.getDeclaredMethods()) {
+                Due.isTrue(m + " bears no name of the face", Arrays.stream(METHODS)
+                        .noneMatch(face -> face.contains(" " + m.getName() + "(")));
+            }
             for (Field f : c.getDeclaredFields()) {
                 Due.isTrue(f + " is final if it is static",
                         !Modifier.isStatic(f.getModifiers()) || Modifier.isFinal(f.getModifiers()));
