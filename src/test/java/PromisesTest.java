@@ -1,12 +1,5 @@
 /** Each promise of the document, by its number: ordinary inputs, the edges that it names, and wrong inputs. */
-public final class PromisesTest {
-    private static final int BAD = RuleBroadcast.BAD;
-    private static final int FULL = RuleBroadcast.FULL;
-    private static final int WAITS = RuleBroadcast.WAITS;
-    private static final int NONE = RuleBroadcast.NONE;
-    private static final long MIN = Long.MIN_VALUE;
-    private static final long MAX = Long.MAX_VALUE;
-
+public final class PromisesTest extends Checks {
     private PromisesTest() {
     }
 
@@ -42,47 +35,6 @@ public final class PromisesTest {
         promise26();
         promise27();
         Due.end();
-    }
-
-    private static RuleBroadcast with(String... texts) {
-        RuleBroadcast x = new RuleBroadcast();
-        for (String text : texts) {
-            Due.isTrue("tells " + text, Due.tell(x, text, 10) > 0);
-        }
-        return x;
-    }
-
-    private static void tell(RuleBroadcast x, String text, long time, int want) {
-        Due.is("telling " + text.replace('\n', '~') + " at " + time, Due.tell(x, text, time), want);
-    }
-
-    private static void faulty(String text, int place, int kind) {
-        RuleBroadcast x = new RuleBroadcast();
-        tell(x, text, 0, -10 - place);
-        Due.is("fault() of " + text, x.fault(), kind);
-        Due.is("count(1) behind " + text, x.count(1), 0);
-        Due.is("count(2) behind " + text, x.count(2), 0);
-    }
-
-    private static void sound(String text) {
-        RuleBroadcast x = new RuleBroadcast();
-        tell(x, text, 0, 1);
-        Due.is("fault() of " + text, x.fault(), 0);
-    }
-
-    /** What a sum is for k = 7, t = 3, v = -5 and as the task's third row. */
-    private static void sum(String sum, long want) {
-        RuleBroadcast x = with("a out " + sum);
-        x.row(0, 0, 0, 0);
-        x.row(0, 0, 0, 0);
-        x.apply(0, 60);
-        Due.is("row() by " + sum, x.row(0, 7, 3, -5), 1);
-        Due.is("out() by " + sum, x.out(0, 0), want);
-    }
-
-    /** What tries() answers of a rule for k = 7, t = 3, v = 0. */
-    private static void tried(String rule, int want) {
-        Due.is("tries() of " + rule, with(rule).tries(0, 7, 3, 0), want);
     }
 
     private static void asAtTheBeginning(RuleBroadcast x) {
