@@ -187,9 +187,9 @@ public final class CallEdgesTest extends Checks {
         fill(x, "a out 1", 5, 59);
         is("fault()", x.fault(), 0);
         tell(x, "!", 5, -10);
-        fill(x, "a out 1", 5, 60);
-        tell(x, "!", 5, FULL);
-        is("fault() behind one that was FULL", x.fault(), 0);
+        is("drop(0, 5) as the 60th", x.drop(0, 5), 60);
+        tell(x, "a out 1", 5, FULL);
+        is("fault() behind one that was FULL", x.fault(), 1);
         RuleBroadcast y = new RuleBroadcast();
         tell(y, "!", 5, -10);
         y.clear();
@@ -832,30 +832,43 @@ public final class CallEdgesTest extends Checks {
     private static void offsThatTheyHadThen() {
         in("24: TASKS have the OFFS that they had then (those that there were not: none)");
         RuleBroadcast x = with("a out 1/v", "b out 1/v");
-        x.tasks(2);
-        x.apply(0, 1);
-        x.apply(1, 1);
+        x.tasks(3);
+        for (int task = 0; task < 3; task++) {
+            x.apply(task, 1);
+        }
         x.row(1, 0, 10, 0);
+        x.row(2, 0, 10, 0);
+        x.tasks(2);
         x.mark();
         x.apply(0, 60);
         x.row(0, 0, 10, 0);
-        x.tasks(3);
+        x.tasks(4);
         x.apply(1, 60);
         is("off(2, 0), as task 0", x.off(2, 0), 1);
         is("restore(0)", x.restore(0), 3);
-        int[] due = {0, 1, 0};
-        for (int task = 0; task < 3; task++) {
+        // Task 2 was there ahead of the mark, and had it off; task 3 was never there.
+        int[] due = {0, 1, 0, 0};
+        for (int task = 0; task < 4; task++) {
             is("off(" + task + ", 0)", x.off(task, 0), due[task]);
             is("off(" + task + ", 1)", x.off(task, 1), 0);
             is("count(1" + task + "), what is applied stays", x.count(10 + task), 2);
         }
-        is("count(0)", x.count(0), 3);
+        is("count(0)", x.count(0), 4);
         is("apply(0, 60)", x.apply(0, 60), 1);
         x.tasks(1);
         is("restore(0), fewer tasks than then", x.restore(0), 4);
         is("off(0, 0)", x.off(0, 0), 0);
         x.tasks(2);
         is("off(1, 0), a new one has them as task 0", x.off(1, 0), 0);
+        RuleBroadcast y = with("a out 1/v");
+        y.apply(0, 1);
+        y.row(0, 0, 10, 0);
+        y.mark();
+        y.tasks(2);
+        is("off(1, 0)", y.off(1, 0), 1);
+        is("restore(0)", y.restore(0), 2);
+        is("off(0, 0), as it had it then", y.off(0, 0), 1);
+        is("off(1, 0), it was not there: none, and not as task 0", y.off(1, 0), 0);
     }
 
     private static void rowsAreLost() {

@@ -55,6 +55,7 @@ public final class RefusalsTest extends Checks {
         x.mark();
         x.row(0, 2, 20, 1);
         x.row(1, 7, 20, 1);
+        x.row(1, 6, 20, 1);
         x.row(1, 8, LATER, 1);
         x.row(2, 9, 10, 1);
         told(x, "a out", 30);
@@ -67,31 +68,37 @@ public final class RefusalsTest extends Checks {
         busy(x);
         x.mark();
         x.mark();
-        for (int i = 0; i < 5; i++) {
-            x.row(2, 10 + i, LATER, 1);
-        }
+        afterAllMarks(x);
         for (int i = 0; i < 9; i++) {
             Due.feed(x, " +" + i);
         }
         is("count(6) of one with room in the log alone", x.count(6), 4);
     }
 
-    /** As brim, and THE LOG is full. */
+    /** As brim, and THE LOG is full; rule 7 was dropped, too. */
     private static void full(RuleBroadcast x) {
         busy(x);
         x.keep(0);
-        for (int i = 8; i <= 60; i++) {
+        x.mark();
+        x.mark();
+        afterAllMarks(x);
+        for (int i = 9; i <= 59; i++) {
             told(x, "cefgh".charAt(i % 5) + " out n/v,2", 40);
         }
-        x.mark();
-        x.mark();
-        for (int i = 0; i < 5; i++) {
-            x.row(2, 10 + i, LATER, 1);
-        }
+        told(x, "a out 1,!", 40);
+        x.drop(7, 40);
         for (int i = 0; i < 10; i++) {
             Due.feed(x, " +" + i);
         }
         is("count(1) of a full one", x.count(1), 60);
+    }
+
+    /** A failure makes a change and offs that no mark has; and six rows wait at task 2. */
+    private static void afterAllMarks(RuleBroadcast x) {
+        x.row(0, 1, 10, 0);
+        for (int i = 0; i < 5; i++) {
+            x.row(2, 10 + i, LATER, 1);
+        }
     }
 
     private static void told(RuleBroadcast x, String text, long time) {
@@ -181,8 +188,8 @@ public final class RefusalsTest extends Checks {
     }
 
     private static void bytes(RuleBroadcast x, List<Long> answers) {
-        answers.add((long) x.keep(201));
         answers.add((long) x.keep(0));
+        answers.add((long) x.keep(1));
     }
 
     private static void textIsRead(RuleBroadcast x, List<Long> answers) {
@@ -193,6 +200,16 @@ public final class RefusalsTest extends Checks {
         answers.add((long) x.row(0, 3, LATER, 3));
         outs(x, answers, 0, 12);
         latestRules(x, answers);
+        nameIsTold(x, answers);
+    }
+
+    /** Whether the text before was told by this name shows in how many names there are then. */
+    private static void nameIsTold(RuleBroadcast x, List<Long> answers) {
+        x.keep(0);
+        Due.feed(x, "e out 7");
+        answers.add((long) x.rule(MAX));
+        answers.add((long) x.fault());
+        answers.add((long) x.count(2));
     }
 
     private static void moreBytes(RuleBroadcast x, List<Long> answers) {
@@ -200,9 +217,7 @@ public final class RefusalsTest extends Checks {
         answers.add((long) x.rule(LATER));
         answers.add((long) x.fault());
         answers.add((long) x.tries(4, 0, 0, 0));
-        answers.add((long) Due.feed(x, "c out 7"));
-        answers.add((long) x.rule(LATER));
-        answers.add((long) x.fault());
+        nameIsTold(x, answers);
     }
 
     private static void ways(RuleBroadcast x, List<Long> answers) {
@@ -236,8 +251,8 @@ public final class RefusalsTest extends Checks {
     }
 
     private static void marks(RuleBroadcast x, List<Long> answers) {
-        answers.add((long) x.mark());
-        for (int mark = 0; mark <= 4; mark++) {
+        // No mark() ahead of these: were it refused at both, it would hide what it changes.
+        for (int mark = 0; mark <= 3; mark++) {
             int changes = x.restore(mark);
             answers.add((long) changes);
             answers.add((long) x.change(changes, 2));
@@ -249,6 +264,7 @@ public final class RefusalsTest extends Checks {
                 }
             }
         }
+        answers.add((long) x.mark());
     }
 
     private static void tasksGo(RuleBroadcast x, List<Long> answers) {
@@ -303,7 +319,7 @@ public final class RefusalsTest extends Checks {
         RuleBroadcast x = new RuleBroadcast();
         busy(x);
         int[][] due = {{0, 3}, {1, 7}, {2, 4}, {3, 1}, {4, 4}, {5, 2}, {6, 2}, {10, 4}, {11, 2}, {12, 0}, {20, 4},
-            {30, 0}, {31, 2}, {32, 1}};
+            {30, 0}, {31, 3}, {32, 1}};
         for (int[] one : due) {
             is("count(" + one[0] + ") of a busy one", x.count(one[0]), one[1]);
         }
@@ -319,7 +335,9 @@ public final class RefusalsTest extends Checks {
             }
             is("count(32)", y.count(32), 6);
             is("count(6)", y.count(6), 4);
-            is("count(1)", y.count(1), full == 0 ? 7 : 60);
+            is("count(1)", y.count(1), full == 0 ? 8 : 60);
+            is("off(0, 0)", y.off(0, 0), 1);
+            is("fault()", y.fault(), full == 0 ? 2 : 1);
             is("count(2)", y.count(2), full == 0 ? 4 : 8);
             is("keep(200)", y.keep(200), 0);
         }

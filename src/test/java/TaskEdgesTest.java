@@ -13,6 +13,7 @@ public final class TaskEdgesTest extends Checks {
         waitsOrIsJudged();
         thereAndOn();
         offsAreTexts();
+        offsOfAllTexts();
         testHolds();
         fortyAreKept();
         fortyOfEachTask();
@@ -197,6 +198,37 @@ public final class TaskEdgesTest extends Checks {
         y.apply(0, 2);
         is("row() by the old text behind a back, which the mark has off", y.row(0, 0, 10, 1), 0);
         is("off(0, 0)", y.off(0, 0), 1);
+    }
+
+    private static void offsOfAllTexts() {
+        in("have OFFS of their own (TEXTS): from the first to the 60th, and none by another");
+        // The texts 28 and 60 (and 59) are those of the three rules.
+        int[] texts = {59, 28, 60};
+        for (int failing = 0; failing < 3; failing++) {
+            RuleBroadcast x = new RuleBroadcast();
+            fill(x, "a out 1/k", 10, 27);
+            fill(x, "b out 1/t", 10, 28);
+            fill(x, "a out 1/k", 10, 59);
+            fill(x, "c out 1/v", 10, 60);
+            x.apply(0, 60);
+            is("row() by which one fails", x.row(0, failing == 0 ? 0 : 1, failing == 1 ? 0 : 1, failing == 2 ? 0 : 1), 2);
+            for (int rule = 0; rule < 3; rule++) {
+                is("off(0, " + rule + ") of text " + texts[rule], x.off(0, rule), rule == failing ? 1 : 0);
+            }
+            is("failed(0, 2)", x.failed(0, 2), texts[failing]);
+            is("row()", x.row(0, 1, 1, 1), 2);
+            x.asOf(true);
+            is("row() that waits for none", x.row(0, 1, 10, 1), 2);
+        }
+        RuleBroadcast y = new RuleBroadcast();
+        fill(y, "a out 1/v", 10, 60);
+        for (int n = 1; n <= 60; n++) {
+            y.apply(0, 1);
+            is("off(0, 0) of text " + n, y.off(0, 0), 0);
+            y.row(0, 0, 10, 0);
+            is("off(0, 0) of text " + n, y.off(0, 0), 1);
+        }
+        is("count(5)", y.count(5), 60);
     }
 
     private static void testHolds() {
