@@ -550,7 +550,7 @@ public final class CallEdgesTest extends Checks {
     }
 
     private static void promise14And15() {
-        in("14: What came OUT at a TASK, i = 0 the latest. 0: no such (kept no more). 15: NONE: no such. BAD: the TASK.");
+        in("14: What came OUT at a TASK, i = 0 the latest. 0: no such (kept no more). 15: NONE: no such. BAD: ..");
         RuleBroadcast x = with("a out 1,2,3", "b out 4");
         x.tasks(2);
         x.apply(0, 60);
@@ -956,7 +956,7 @@ public final class CallEdgesTest extends Checks {
     }
 
     private static void promise26() {
-        in("26: 0 TASKS; 1 CHANGES; 2 RULES that were ever TOLD; 3 ROWS that were LOST; 4 that were JUDGED, 5 FAILURES");
+        in("26: 0 TASKS; 1 CHANGES; 2 RULES that were ever TOLD; 3 ROWS that were LOST; 4 that were JUDGED, ..");
         RuleBroadcast x = with("a out 1/v", "b out 1/v", "c out 1,2");
         x.tasks(4);
         x.apply(1, 60);
@@ -970,8 +970,12 @@ public final class CallEdgesTest extends Checks {
         x.row(2, 0, 9, 0);
         x.mark();
         x.mark();
-        int[] due = {4, 4, 3, 0, 3, 2, 2, BAD, BAD, BAD, 0, 3, 0, 0, BAD, BAD, BAD, BAD, BAD, BAD, 0, 2, 1, 0, BAD, BAD,
-            BAD, BAD, BAD, BAD, 1, 0, 0, 2, BAD, BAD, BAD, BAD, BAD, BAD, 0, 4, 0, 0, BAD, BAD, BAD, BAD, BAD, BAD, BAD};
+        int[] due = {
+            4, 4, 3, 0, 3, 2, 2, BAD, BAD, BAD,
+            0, 3, 0, 0, BAD, BAD, BAD, BAD, BAD, BAD,
+            0, 2, 1, 0, BAD, BAD, BAD, BAD, BAD, BAD,
+            1, 0, 0, 2, BAD, BAD, BAD, BAD, BAD, BAD,
+            0, 4, 0, 0, BAD, BAD, BAD, BAD, BAD, BAD, BAD};
         for (int what = 0; what < due.length; what++) {
             is("count(" + what + ")", x.count(what), due[what]);
         }

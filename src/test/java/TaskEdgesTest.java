@@ -211,7 +211,9 @@ public final class TaskEdgesTest extends Checks {
             fill(x, "a out 1/k", 10, 59);
             fill(x, "c out 1/v", 10, 60);
             x.apply(0, 60);
-            is("row() by which one fails", x.row(0, failing == 0 ? 0 : 1, failing == 1 ? 0 : 1, failing == 2 ? 0 : 1), 2);
+            long[] row = {1, 1, 1};
+            row[failing] = 0;
+            is("row() by which one fails", x.row(0, row[0], row[1], row[2]), 2);
             for (int rule = 0; rule < 3; rule++) {
                 is("off(0, " + rule + ") of text " + texts[rule], x.off(0, rule), rule == failing ? 1 : 0);
             }
