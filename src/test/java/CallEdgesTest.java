@@ -1011,8 +1011,9 @@ public final class CallEdgesTest extends Checks {
         fill(x, "a out 1", 5, 60);
         is("clear() of 60", x.clear(), 60);
         is("clear() again", x.clear(), 0);
+        namesAreNumberedAnew();
         tell(x, "b out 1/v", MIN, 1);
-        is("count(2), its number is 0", x.change(1, 1), 0);
+        is("change(1, 1), its number is 0", x.change(1, 1), 0);
         x.mark();
         x.alike(true);
         x.asOf(true);
@@ -1054,5 +1055,29 @@ public final class CallEdgesTest extends Checks {
         is("count(35)", x.count(35), 0);
         is("restore(0), of a mark of now", x.restore(0), 2);
         is("off(0, 0)", x.off(0, 0), 0);
+    }
+
+    private static void namesAreNumberedAnew() {
+        RuleBroadcast x = new RuleBroadcast();
+        String names = "abcdefgh";
+        for (int i = 0; i < 8; i++) {
+            tell(x, names.charAt(i) + " out 1", 5, i + 1);
+        }
+        is("clear() of 8 names", x.clear(), 8);
+        // The same names in another order, and as the first one that which was first before.
+        String again = "ahgfedcb";
+        for (int i = 0; i < 8; i++) {
+            tell(x, again.charAt(i) + " out 1", 5, i + 1);
+            is("change(" + (i + 1) + ", 1) of " + again.charAt(i), x.change(i + 1, 1), i);
+            is("count(2)", x.count(2), i + 1);
+        }
+        x.clear();
+        tell(x, "h out 1", 5, 1);
+        is("change(1, 1) of h", x.change(1, 1), 0);
+        tell(x, "z out 1", 5, 2);
+        is("change(2, 1) of a new name", x.change(2, 1), 1);
+        tell(x, "h out 1", 5, 3);
+        is("change(3, 1) of h", x.change(3, 1), 0);
+        is("count(2)", x.count(2), 2);
     }
 }

@@ -60,6 +60,10 @@ public final class TextEdgesTest extends Checks {
         faulty("a out 1" + blanks(192) + "!", 199, 1);
         faulty("a out" + blanks(194), 199, 2);
         faulty("a out" + blanks(195), 200, 2);
+        for (String last : new String[] {"<", ">", "=", "-", "k", "1"}) {
+            // The last of 200 bytes, behind which there is none that could make its token longer.
+            faulty("a if k" + blanks(193) + last, last.equals("k") || last.equals("1") ? 199 : 200, 2);
+        }
         RuleBroadcast y = new RuleBroadcast();
         tell(y, blanks(20) + "!", 0, -30);
         tell(y, "!", 0, -10);
