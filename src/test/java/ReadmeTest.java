@@ -13,7 +13,6 @@ import java.util.regex.Matcher;
 import java.util.regex.Pattern;
 import java.util.stream.Collectors;
 import java.util.stream.Stream;
-import javax.tools.ToolProvider;
 
 /** What README.md shows is so: the answers beside its calls, and the way to run the tests. */
 public final class ReadmeTest {
@@ -86,8 +85,8 @@ public final class ReadmeTest {
             Path file = folder.resolve("ReadmeShows.java");
             Files.writeString(file, "public final class ReadmeShows {\n" + helpers
                     + "public static void run(java.util.List<Long> got) {\n" + examples + "}\n}\n");
-            int wrong = ToolProvider.getSystemJavaCompiler().run(null, null, null,
-                    "-cp", System.getProperty("java.class.path"), "-d", folder.toString(), file.toString());
+            int wrong = new ProcessBuilder("javac", "-cp", System.getProperty("java.class.path"),
+                    "-d", folder.toString(), file.toString()).inheritIO().start().waitFor();
             Due.is("compiling what it shows", wrong, 0);
             if (wrong == 0) {
                 loader.loadClass("ReadmeShows").getMethod("run", List.class).invoke(null, got);
